@@ -169,7 +169,7 @@ public final class ToyRegatta {
     public boolean falls(int boat, int wind) throws IndexOutOfBoundsException, IllegalArgumentException {
         Boat asked = boatAt(boat);
         requireWind(wind);
-        return asked.tipsBy(wind);
+        return asked.heel(wind) > Boat.SAFE_HEEL;
     }
 
     public int when(int boat) throws IndexOutOfBoundsException {
@@ -345,8 +345,8 @@ public final class ToyRegatta {
         static final int SAILING = 1;
         static final int ARRIVED = 2;
         static final int OUT = 3;
+        static final int SAFE_HEEL = 30;
         private static final int MOST_SPEED = 20;
-        private static final int SAFE_HEEL = 30;
         private static final int MINUTES_LYING = 2;
         private static final int SOAKED_BY_FALL = 2;
         private static final int MOST_SOAKED = 9;
@@ -400,10 +400,6 @@ public final class ToyRegatta {
             return Math.min(MOST_SPEED, 4 * pull(wind) / (2 + hull + lead / 2));
         }
 
-        boolean tipsBy(int wind) {
-            return heel(wind) > SAFE_HEEL;
-        }
-
         boolean canRace() {
             return soaked < MOST_SOAKED;
         }
@@ -413,7 +409,6 @@ public final class ToyRegatta {
             time = NO_TIME;
             fouls = 0;
             lying = 0;
-            wentOn = false;
             state = canRace() ? SAILING : ABSENT;
         }
 
@@ -424,7 +419,7 @@ public final class ToyRegatta {
             }
             if (lying > 0) {
                 lying--;
-            } else if (tipsBy(wind)) {
+            } else if (heel(wind) > SAFE_HEEL) {
                 fallOver();
             } else {
                 place += speed(wind);

@@ -26,26 +26,34 @@ final class Check {
         }
     }
 
-    /** The call has to throw exactly this class, and to change nothing. */
+    /** The call has to throw exactly this class, by a throw of the class under test, and to change nothing. */
     void dueThrows(String what, ToyRegatta x, Class<?> want, Call call) {
         checked++;
         long before = x.digest();
-        Class<?> got = thrownBy(call);
-        if (got != want) {
+        RuntimeException got = thrownBy(call);
+        if (got == null || got.getClass() != want) {
             tell(what + " threw " + got + ", due is " + want);
+        } else if (!isOwn(got)) {
+            tell(what + " left its exception to the library or the machine: " + got);
         }
         if (x.digest() != before) {
             tell(what + " changed something");
         }
     }
 
-    static Class<?> thrownBy(Call call) {
+    private static RuntimeException thrownBy(Call call) {
         try {
             call.make();
             return null;
         } catch (RuntimeException e) {
-            return e.getClass();
+            return e;
         }
+    }
+
+    /** Tells whether the class under test threw it, and not the library that it calls. */
+    static boolean isOwn(RuntimeException e) {
+        StackTraceElement[] trace = e.getStackTrace();
+        return trace.length > 0 && trace[0].getClassName().startsWith("ToyRegatta");
     }
 
     void tell(String fault) {

@@ -275,6 +275,14 @@ public final class RaceTest {
         CHECK.due("a foul of those that go on again", x.about(3, 2), 3);
         CHECK.due("place", x.about(3, 0), 6);
 
+        ToyRegatta slow = Regattas.of(Regattas.THREE, Regattas.THREE);
+        slow.setWind(0, 2);
+        slow.judge(11);
+        slow.start();
+        slow.pass(1);
+        CHECK.due("place 1", slow.about(1, 0), 1);
+        CHECK.due("a foul at the place 1", slow.about(1, 2), 1);
+
         ToyRegatta unseen = Regattas.of(Regattas.FIVE, Regattas.FIVE);
         unseen.start();
         unseen.pass(12);

@@ -80,6 +80,25 @@ public final class WouldBeTest {
         slow.start();
         CHECK.due("when of more than 60 minutes", slow.when(0), -1);
 
+        // The minute counts by the table: wind in the minutes 5 to 9, 15 to 19 and from 25 on.
+        ToyRegatta breeze = Regattas.of(Regattas.FIVE);
+        for (int minute = 0; minute < 5; minute++) {
+            breeze.setWind(minute, 0);
+        }
+        breeze.pass(5);
+        breeze.start();
+        CHECK.due("when with wind in some minutes", breeze.when(0), 22);
+        CHECK.due("when once more", breeze.when(0), 22);
+
+        // Two minutes on the side, then seven of 3.
+        ToyRegatta lying = Regattas.of(Regattas.TIPPY);
+        Regattas.windEverywhere(lying, 3);
+        lying.setWind(0, 4);
+        lying.pond(20);
+        lying.start();
+        lying.pass(1);
+        CHECK.due("when of one that lies on the side", lying.when(0), 10);
+
         // A boat that is not in the race.
         ToyRegatta absent = Regattas.of(Regattas.TIPPY);
         absent.start();
@@ -168,6 +187,8 @@ public final class WouldBeTest {
         fouled.start();
         fouled.pass(2);
         CHECK.due("fouls", fouled.about(1, 2), 2);
+        Regattas.windEverywhere(fouled, 5);
+        CHECK.due("winner with fouls that are there", fouled.winner(), 0);
         Regattas.windEverywhere(fouled, 6);
         CHECK.due("when of 0", fouled.when(0), 8);
         CHECK.due("when of 1", fouled.when(1), 8);
@@ -196,6 +217,13 @@ public final class WouldBeTest {
         CHECK.due("soaked as before", x.told(0, 4), 9);
         Regattas.windEverywhere(x, 0);
         CHECK.due("advise without wind", x.advise(0), -1);
+
+        ToyRegatta storm = new ToyRegatta();
+        storm.build(5, 0);
+        Regattas.windEverywhere(storm, 7);
+        CHECK.due("advise the most", storm.advise(0), 9);
+        Regattas.windEverywhere(storm, 8);
+        CHECK.due("advise when it falls with all", storm.advise(0), -1);
 
         ToyRegatta slow = new ToyRegatta();
         slow.build(9, 2);
