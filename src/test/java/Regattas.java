@@ -1,3 +1,5 @@
+import java.util.Arrays;
+
 /** Makes regattas for the tests. */
 final class Regattas {
     static final Class<?> INDEX = IndexOutOfBoundsException.class;
@@ -13,16 +15,84 @@ final class Regattas {
     /** Falls over by the wind 4, with a heel of 32. */
     static final int[] TIPPY = {8, 0, 0};
 
+    /** Goes 1 a minute by the wind 1, and never falls over. */
+    static final int[] CRAWLER = {9, 2, 9};
+    /** Goes 10 a minute by the wind 8 and 11 by the wind 9. */
+    static final int[] RACER = {1, 2, 5};
+
     private Regattas() {
     }
 
     static ToyRegatta of(int[]... boats) {
         ToyRegatta x = new ToyRegatta();
         for (int[] boat : boats) {
-            int number = x.build(boat[0], boat[1]);
-            x.ballast(number, boat[2]);
+            add(x, boat);
         }
         return x;
+    }
+
+    static ToyRegatta racing(int[]... boats) {
+        ToyRegatta x = of(boats);
+        x.start();
+        return x;
+    }
+
+    /** As many boats of a kind. */
+    static ToyRegatta fleet(int boats, int[] boat) {
+        int[][] all = new int[boats][];
+        Arrays.fill(all, boat);
+        return of(all);
+    }
+
+    static ToyRegatta two() {
+        return of(FIVE, FOUR);
+    }
+
+    static ToyRegatta twoRacing() {
+        return racing(FIVE, FOUR);
+    }
+
+    static ToyRegatta eight() {
+        return fleet(8, FIVE);
+    }
+
+    /** Their race lasts 60 minutes for want of wind, and is in its last one. */
+    static ToyRegatta twoInTheLastMinute() {
+        ToyRegatta x = twoRacing();
+        blow(x, 0, 59);
+        return x;
+    }
+
+    /** In a race: 0 is not in it, 1 sails, 2 lies on the side, 3 sails and has two fouls. */
+    static ToyRegatta mixed() {
+        ToyRegatta x = soakedBy(9);
+        add(x, FIVE);
+        add(x, TIPPY);
+        add(x, FIVE);
+        x.judge(0);
+        x.start();
+        x.pass(2);
+        return x;
+    }
+
+    /** A tippy boat, behind a race, whose sailor is soaked by 9 down to 0, in the first minute of that. */
+    static ToyRegatta soakedBy(int soaked) {
+        ToyRegatta x = racing(TIPPY);
+        x.pass(soaked == 9 ? 13 : 16 + 5 * (8 - soaked));
+        return x;
+    }
+
+    /** Adds a boat, and returns its number. */
+    static int add(ToyRegatta x, int[] boat) {
+        int number = x.build(boat[0], boat[1]);
+        x.ballast(number, boat[2]);
+        return number;
+    }
+
+    /** Lets minutes go by with this wind. */
+    static int blow(ToyRegatta x, int wind, int minutes) {
+        windEverywhere(x, wind);
+        return x.pass(minutes);
     }
 
     static void windEverywhere(ToyRegatta x, int wind) {

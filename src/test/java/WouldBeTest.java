@@ -15,6 +15,7 @@ public final class WouldBeTest {
         adviseWrong();
         mean();
         digest();
+        digestInARace();
         CHECK.end("WouldBeTest");
     }
 
@@ -284,10 +285,20 @@ public final class WouldBeTest {
         x.judge(42);
         x.judge(7);
         CHECK.due("digest with judges", x.digest(), Regattas.digest(x, winds, 42, 7));
+    }
+
+    /** Each look at all numbers is some 50 calls, and 512 are all that an object is used for. */
+    private static void digestInARace() {
+        ToyRegatta x = Regattas.of(Regattas.FIVE, Regattas.FIVE, Regattas.TIPPY);
+        int[] winds = {4, 4, 4, 9, 4, 4, 4, 1, 4, 4};
+        x.setWind(3, 9);
+        x.setWind(7, 1);
+        x.judge(42);
+        x.judge(7);
         x.start();
-        for (int i = 0; i < 12; i++) {
+        for (int i = 0; i < 8; i++) {
             CHECK.due("digest in a race", x.digest(), Regattas.digest(x, winds, 42, 7));
-            x.pass(6);
+            x.pass(i < 7 ? 5 : 30);
         }
         x.judge(199);
         CHECK.due("digest behind a race", x.digest(), Regattas.digest(x, winds, 42, 7, 199));
