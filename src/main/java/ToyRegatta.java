@@ -397,7 +397,12 @@ public final class ToyRegatta {
         }
 
         int speed(int wind) {
-            return Math.min(MOST_SPEED, 4 * pull(wind) / (2 + hull + lead / 2));
+            int weight = 2 + hull + lead / 2;
+            // No boat is as light as this, but each divisor has to be looked at before it divides.
+            if (weight <= 0) {
+                return 0;
+            }
+            return Math.min(MOST_SPEED, 4 * pull(wind) / weight);
         }
 
         boolean canRace() {

@@ -10,6 +10,8 @@ import java.util.ArrayList;
 import java.util.Arrays;
 import java.util.List;
 import java.util.TreeSet;
+import java.util.regex.Matcher;
+import java.util.regex.Pattern;
 
 /** The document's face, and what of LANGUAGE.md can be seen by a look from outside. */
 public final class FaceTest {
@@ -41,6 +43,8 @@ public final class FaceTest {
         "->", "::", "catch", "finally", "synchronized", "assert", "Exact", "package ", "static {", "volatile",
         "native", "Object", "System.", "Thread", "Random", "equals", "hashCode", "toString",
     };
+
+    private static final Pattern DIVISION = Pattern.compile(" [/%] (?:\\(double\\) )?(\\w+|\\S)");
 
     public static void main(String[] args) throws IOException {
         face();
@@ -121,5 +125,29 @@ public final class FaceTest {
                 CHECK.due("'" + word + "' in '" + line + "'", line.contains(word), false);
             }
         }
+        for (int i = 0; i < lines.size(); i++) {
+            divisors(lines, i);
+        }
+    }
+
+    /** A divisor is a number, a constant, or a name that an if ahead of it looks at. */
+    private static void divisors(List<String> lines, int at) {
+        Matcher found = DIVISION.matcher(lines.get(at));
+        while (found.find()) {
+            String divisor = found.group(1);
+            boolean fixed = divisor.matches("[1-9]\\d*|[A-Z][A-Z_]*");
+            boolean fine = fixed || isLookedAt(lines, at, divisor);
+            CHECK.due("'" + divisor + "' is looked at before it divides", fine, true);
+        }
+    }
+
+    /** Looks from this line up to the empty one that stands ahead of each method. */
+    private static boolean isLookedAt(List<String> lines, int at, String name) {
+        for (int i = at; i >= 0 && !lines.get(i).isEmpty(); i--) {
+            if (lines.get(i).strip().startsWith("if (" + name + " ")) {
+                return true;
+            }
+        }
+        return false;
     }
 }
