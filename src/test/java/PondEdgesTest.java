@@ -28,6 +28,7 @@ public final class PondEdgesTest {
         EDGES.of("if place is not 0 to 199", PondEdgesTest::wrongPlace);
         EDGES.of("if there are 3", PondEdgesTest::fourthJudge);
         EDGES.of("judge in a race", PondEdgesTest::judgeInARace);
+        EDGES.of("from now on, behind races", PondEdgesTest::changedBehindARace);
         EDGES.end("PondEdgesTest");
     }
 
@@ -289,5 +290,35 @@ public final class PondEdgesTest {
         EDGES.due("judge(10)", x.judge(10), 1);
         x.pass(1);
         EDGES.due("fouls with a judge", x.about(1, 2), 1);
+    }
+
+    /** What is answered goes neither by the races that were nor by how boats are behind them. */
+    private static void changedBehindARace() {
+        ToyRegatta x = Regattas.outAndIn();
+        x.pass(15);
+        for (int race = 1; race <= 2; race++) {
+            EDGES.due("a race", x.count(5), 0);
+            for (int boat = 0; boat < 3; boat++) {
+                int lead = x.told(boat, 2);
+                EDGES.due("the lead of " + boat + " before", x.ballast(boat, 3), lead);
+                EDGES.due("the lead of " + boat + " behind that", x.ballast(boat, lead), 3);
+            }
+            EDGES.due("the length before", x.pond(59 + race), 60);
+            EDGES.due("the wind before", x.setWind(9, 4), 4);
+            EDGES.due("judges", x.judge(199), race);
+            EDGES.due("the number", x.build(9, 2), 2 + race);
+            EDGES.due("its lead before", x.ballast(2 + race, 9), 0);
+            x.start();
+            x.pass(90);
+        }
+        EDGES.due("the length at last", x.pond(20), 61);
+        ToyRegatta lying = Regattas.lyingBehindARace();
+        EDGES.due("the lead of one on the side before", lying.ballast(0, 9), 0);
+        EDGES.due("the lead of one on the side behind that", lying.ballast(0, 0), 9);
+        EDGES.due("the length before", lying.pond(20), 60);
+        ToyRegatta soaked = Regattas.soakedBy(9);
+        EDGES.due("the lead of one soaked by 9 before", soaked.ballast(0, 9), 0);
+        EDGES.due("the lead of one soaked by 9 behind that", soaked.ballast(0, 0), 9);
+        EDGES.due("the length before", soaked.pond(20), 60);
     }
 }

@@ -29,9 +29,7 @@ public final class RaceEdgesTest {
         x.pass(12);
         EDGES.dueAbout(x, 1, 60, 12, 1, 0, 2);
 
-        ToyRegatta lying = Regattas.racing(Regattas.TIPPY);
-        Regattas.blow(lying, 0, 59);
-        Regattas.blow(lying, 4, 1);
+        ToyRegatta lying = Regattas.lyingBehindARace();
         EDGES.due("lies at the end", lying.about(0, 3), 2);
         lying.start();
         EDGES.dueAbout(lying, 0, 0, -1, 0, 0, 1);

@@ -82,6 +82,21 @@ final class Regattas {
         return x;
     }
 
+    /** Behind a race, in whose last minute a tippy boat has fallen over. */
+    static ToyRegatta lyingBehindARace() {
+        ToyRegatta x = racing(TIPPY);
+        blow(x, 0, 59);
+        blow(x, 4, 1);
+        return x;
+    }
+
+    /** In a race: 0 is out, 1 is in, 2 sails. */
+    static ToyRegatta outAndIn() {
+        ToyRegatta x = racing(TIPPY, FOUR, CRAWLER);
+        x.pass(15);
+        return x;
+    }
+
     /** Adds a boat, and returns its number. */
     static int add(ToyRegatta x, int[] boat) {
         int number = x.build(boat[0], boat[1]);

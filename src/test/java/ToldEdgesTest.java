@@ -7,6 +7,7 @@ public final class ToldEdgesTest {
     public static void main(String[] args) {
         EDGES.of("0 its hull, 1 its rig, 2 its lead, 3 its points", ToldEdgesTest::leastAndMostTold);
         EDGES.of("5 its heel now, 6 its speed now", ToldEdgesTest::toldNow);
+        EDGES.of("5 its heel now, 6 its speed now", ToldEdgesTest::toldNowHoweverItIs);
         EDGES.of("told: if there is no such boat", ToldEdgesTest::toldOfNoBoat);
         EDGES.of("or what is not 0 to 6", ToldEdgesTest::toldOfNothing);
         EDGES.of("Tells of the race, or, without one, of the latest one", ToldEdgesTest::latestRace);
@@ -47,6 +48,11 @@ public final class ToldEdgesTest {
             EDGES.due("the least told " + what, x.told(0, what), least[what]);
             EDGES.due("the most told " + what, x.told(1, what), most[what]);
         }
+        ToyRegatta lying = Regattas.lyingBehindARace();
+        int[] behind = {8, 0, 0, 0, 2};
+        for (int what = 0; what < behind.length; what++) {
+            EDGES.due("on the side behind a race, told " + what, lying.told(0, what), behind[what]);
+        }
     }
 
     private static void toldNow() {
@@ -65,6 +71,32 @@ public final class ToldEdgesTest {
         x.ballast(1, 6);
         EDGES.due("heel with lead", x.told(1, 5), 0);
         EDGES.due("speed with lead", x.told(1, 6), 3);
+    }
+
+    /** Neither the race nor how a boat is in it is among what the terms make heel and speed of. */
+    private static void toldNowHoweverItIs() {
+        ToyRegatta x = Regattas.mixed();
+        dueNow("not in the race", x, 0, 32, 4);
+        dueNow("sailing", x, 1, 0, 5);
+        dueNow("on the side", x, 2, 32, 4);
+        dueNow("at the start", Regattas.twoRacing(), 1, 30, 4);
+        ToyRegatta y = Regattas.outAndIn();
+        dueNow("out", y, 0, 32, 4);
+        dueNow("in", y, 1, 30, 4);
+        y.pass(15);
+        EDGES.due("a race", y.count(5), 0);
+        dueNow("that was out", y, 0, 32, 4);
+        dueNow("that was in", y, 1, 30, 4);
+        y.setWind(0, 0);
+        dueNow("that was in, without wind", y, 1, 0, 0);
+        ToyRegatta lying = Regattas.lyingBehindARace();
+        EDGES.due("minutes on the side", lying.about(0, 3), 2);
+        dueNow("on the side behind the race", lying, 0, 32, 4);
+    }
+
+    private static void dueNow(String how, ToyRegatta x, int boat, int heel, int speed) {
+        EDGES.due("heel of one " + how, x.told(boat, 5), heel);
+        EDGES.due("speed of one " + how, x.told(boat, 6), speed);
     }
 
     private static void toldOfNoBoat() {

@@ -8,6 +8,7 @@ public final class WouldBeEdgesTest {
 
     public static void main(String[] args) {
         EDGES.of("Returns whether it would fall over by this wind", WouldBeEdgesTest::fallsByHeel);
+        EDGES.of("Returns whether it would fall over by this wind", WouldBeEdgesTest::fallsHoweverItIs);
         EDGES.of("falls: if there is no such boat", WouldBeEdgesTest::fallsOfNoBoat);
         EDGES.of("falls: if wind is not 0 to 9", WouldBeEdgesTest::fallsByNoWind);
         EDGES.of("the time with which it will be in, if nothing is done", WouldBeEdgesTest::whenOfOneThatSails);
@@ -45,6 +46,34 @@ public final class WouldBeEdgesTest {
         EDGES.due("a wind of 5", x.falls(3, 5), true);
         EDGES.due("the most wind with the most lead", Regattas.of(Regattas.CRAWLER).falls(0, 9), false);
         EDGES.unchanged("falls", Regattas::mixed, y -> y.falls(2, 9));
+    }
+
+    private static void fallsHoweverItIs() {
+        dueFalls("not in the race", Regattas.mixed(), 0, true);
+        dueFalls("sailing", Regattas.mixed(), 1, false);
+        dueFalls("on the side", Regattas.mixed(), 2, true);
+        ToyRegatta x = Regattas.outAndIn();
+        dueFalls("out", x, 0, true);
+        dueFalls("in", x, 1, false);
+        x.pass(15);
+        EDGES.due("a race", x.count(5), 0);
+        dueFalls("that was out", x, 0, true);
+        dueFalls("that was in", x, 1, false);
+        x.ballast(0, 1);
+        dueFalls("that was out, with more lead", x, 0, false);
+        dueFalls("on the side behind the race", Regattas.lyingBehindARace(), 0, true);
+        for (int soaked = 0; soaked <= 9; soaked++) {
+            dueFalls("soaked by " + soaked, Regattas.soakedBy(soaked), 0, true);
+        }
+    }
+
+    /** By the wind 3 none of them falls over, whatever the wind now is. */
+    private static void dueFalls(String how, ToyRegatta x, int boat, boolean byFour) {
+        for (int now : new int[] {0, 4, 9}) {
+            Regattas.windEverywhere(x, now);
+            EDGES.due("by the wind 3, one " + how, x.falls(boat, 3), false);
+            EDGES.due("by the wind 4, one " + how, x.falls(boat, 4), byFour);
+        }
     }
 
     private static void fallsOfNoBoat() {
@@ -126,6 +155,7 @@ public final class WouldBeEdgesTest {
         x.start();
         x.pass(15);
         EDGES.due("behind a race", x.when(0), -1);
+        EDGES.due("of one that lies behind the race", Regattas.lyingBehindARace().when(0), -1);
         EDGES.unchanged("when without a race", Regattas::two, y -> y.when(1));
         EDGES.unchanged("when in a race", Regattas::mixed, y -> y.when(1));
     }
@@ -286,6 +316,10 @@ public final class WouldBeEdgesTest {
         ToyRegatta in = Regattas.twoRacing();
         in.pass(12);
         EDGES.due("of one that is in", in.advise(0), 1);
+        in.pass(3);
+        EDGES.due("of one that was in", in.advise(0), 1);
+        EDGES.due("of one that is out", Regattas.outAndIn().advise(0), 1);
+        EDGES.due("of one that lies behind the race", Regattas.lyingBehindARace().advise(0), 1);
         EDGES.unchanged("advise in a race", Regattas::mixed, y -> y.advise(2));
     }
 
@@ -362,6 +396,11 @@ public final class WouldBeEdgesTest {
         EDGES.dueDouble("72 / 8", x.mean(), 9.0);
         x.ballast(7, 8);
         EDGES.dueDouble("71 / 8", x.mean(), 8.875);
+        EDGES.dueDouble("of boats one of which is not in the race", Regattas.mixed().mean(), 4.5);
+        ToyRegatta race = Regattas.outAndIn();
+        EDGES.dueDouble("of one that is out, one that is in, one that sails", race.mean(), 3.0);
+        race.pass(15);
+        EDGES.dueDouble("of the same behind the race", race.mean(), 3.0);
         EDGES.unchanged("mean", Regattas::mixed, ToyRegatta::mean);
     }
 
